@@ -1,0 +1,41 @@
+/** Counts the answers that are not as due, and ends a test with exit code 1 if there was one. */
+final class Answers {
+    private final String test;
+    private int wrong;
+    private int asked;
+
+    Answers(String test) {
+        this.test = test;
+    }
+
+    void due(String call, long got, long want) {
+        asked++;
+        if (got != want) {
+            wrong++;
+            System.out.println(test + ": " + call + " answered " + got + ", due is " + want);
+        }
+    }
+
+    /** The values of all segments in hierarchic order (each must fit an int). */
+    void dueValues(String when, PathCalls x, int... values) {
+        due(when + ": count()", x.count(), values.length);
+        for (int i = 0; i < values.length; i++) {
+            due(when + ": order(" + i + ", 3)", x.order(i, 3), values[i]);
+        }
+        due(when + ": order(" + values.length + ", 3)", x.order(values.length, 3), PathCalls.NONE);
+    }
+
+    void duePosition(String when, PathCalls x, int view, int kind, int level, int parentage, int hold) {
+        due(when + ": position(" + view + ", 0)", x.position(view, 0), kind);
+        due(when + ": position(" + view + ", 1)", x.position(view, 1), level);
+        due(when + ": position(" + view + ", 2)", x.position(view, 2), parentage);
+        due(when + ": position(" + view + ", 3)", x.position(view, 3), hold);
+    }
+
+    void end() {
+        System.out.println(test + ": " + asked + " answers, " + wrong + " not as due");
+        if (wrong != 0) {
+            System.exit(1);
+        }
+    }
+}
