@@ -16,6 +16,7 @@ public final class GetTest {
         refusals();
         pathValues();
         pathValuesStay();
+        pathOfEightLevels();
         A.end();
     }
 
@@ -357,10 +358,13 @@ public final class GetTest {
         x.code(3, 8);
         x.get(1, 0);
         duePath("PATH on levels 2 and 3", x, 0, 8, 9);
+        x.part(4, 1, 2);
+        x.get(1, 0);
+        duePath("the PATH of parts that are gone", x, 0, 0, 4);
         x.part(1, 1, 77);
         x.code(1, 8);
         x.get(2, 0);
-        duePath("not found", x, 0, 8, 9);
+        duePath("not found", x, 0, 0, 4);
         x.part(1, 1, 3);
         x.get(2, 0);
         duePath("its own level", x, 11);
@@ -393,5 +397,24 @@ public final class GetTest {
         x.part(1, 1, 50);
         x.get(1, 0);
         duePath("all 64 bits", x, 1L << 40);
+    }
+
+    private static void pathOfEightLevels() {
+        PathCalls x = new PathCalls();
+        x.view();
+        for (int kind = 1; kind <= 8; kind++) {
+            x.kind(kind - 1, true);
+            x.part(kind, 0, 0);
+            A.due("7: insert on level " + kind, x.insert(1, kind, 10 * kind), 0);
+        }
+        for (int kind = 1; kind <= 8; kind++) {
+            x.part(kind, 1, kind);
+            x.code(kind, 8);
+        }
+        A.due("7: eight parts", x.get(1, 0), 0);
+        duePath("eight levels", x, 10, 20, 30, 40, 50, 60, 70, 80);
+        x.part(8, 0, 0);
+        A.due("7: level 8 alone", x.get(1, 0), 0);
+        duePath("level 8 alone", x, 0, 0, 0, 0, 0, 0, 0, 80);
     }
 }
