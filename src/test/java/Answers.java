@@ -1,6 +1,8 @@
 /** Counts the answers that are not as due, and ends a test with exit code 1 if there was one. */
 final class Answers {
     private final String test;
+    private String sentence = "";
+    private int sentences;
     private int wrong;
     private int asked;
 
@@ -8,12 +10,31 @@ final class Answers {
         this.test = test;
     }
 
+    /** What is due from here on is due by this sentence of the document. */
+    void says(String promise, String words) {
+        sentence = promise + ", \"" + words + "\": ";
+        sentences++;
+    }
+
     void due(String call, long got, long want) {
         asked++;
         if (got != want) {
-            wrong++;
-            System.out.println(test + ": " + call + " answered " + got + ", due is " + want);
+            tellWrong(call, Long.toString(got), Long.toString(want));
         }
+    }
+
+    void dueState(String when, PathCalls x, PathCalls asThis) {
+        asked++;
+        String got = Bases.state(x);
+        String want = Bases.state(asThis);
+        if (!got.equals(want)) {
+            tellWrong(when, got, want);
+        }
+    }
+
+    private void tellWrong(String call, String got, String want) {
+        wrong++;
+        System.out.println(test + ": " + sentence + call + " answered " + got + ", due is " + want);
     }
 
     /** The values of all segments in hierarchic order (each must fit an int). */
@@ -33,7 +54,8 @@ final class Answers {
     }
 
     void end() {
-        System.out.println(test + ": " + asked + " answers, " + wrong + " not as due");
+        String by = sentences == 0 ? "" : " by " + sentences + " sentences";
+        System.out.println(test + ": " + asked + " answers" + by + ", " + wrong + " not as due");
         if (wrong != 0) {
             System.exit(1);
         }
